@@ -940,21 +940,19 @@ public final class FaultLists {
                     ones.put(k, heldOnes.at(k));
                     zeros.put(k, heldZeros.at(k));
                 } else {
-                    work(net, k, live);
+                    work(net, k, live, ones, zeros);
                 }
                 stick(k, live);
             }
             for (int k = net.inputs; k < net.lines; k++) {
                 if (net.isRegister(k)) {
-                    int p = net.firsts.intAt(k);
-                    heldOnes.put(k, readOnes(net, p, live));
-                    heldZeros.put(k, readZeros(net, p, live));
+                    work(net, k, live, heldOnes, heldZeros);
                 }
             }
         }
 
-        /** A gate's values, of what its pins read: one pin alone comes to the same by "and". */
-        private void work(Net net, int k, long live) {
+        /** What a line's pins come to; a single one, a register's too, comes to what it reads by "and". */
+        private void work(Net net, int k, long live, Cells toOnes, Cells toZeros) {
             int sort = net.sorts.intAt(k);
             int first = net.firsts.intAt(k);
             int behind = first + net.widths.intAt(k);
@@ -965,8 +963,11 @@ public final class FaultLists {
             long odd = 0;
             long known = -1L;
             for (int p = first; p < behind; p++) {
-                long one = readOnes(net, p, live);
-                long zero = readZeros(net, p, live);
+                int from = net.reads.intAt(p);
+                long low = live & 1L << net.pinFault(p, 0);
+                long high = live & 1L << net.pinFault(p, 1);
+                long one = ones.at(from) & ~low | high;
+                long zero = zeros.at(from) & ~high | low;
                 allOne &= one;
                 someOne |= one;
                 allZero &= zero;
@@ -978,8 +979,8 @@ public final class FaultLists {
             long one = sort == ODD ? odd & known : either ? someOne : allOne;
             long zero = sort == ODD ? ~odd & known : either ? allZero : someZero;
             boolean turned = Net.turns(sort);
-            ones.put(k, turned ? zero : one);
-            zeros.put(k, turned ? one : zero);
+            toOnes.put(k, turned ? zero : one);
+            toZeros.put(k, turned ? one : zero);
         }
 
         private void stick(int k, long live) {
@@ -987,18 +988,6 @@ public final class FaultLists {
             long high = live & 2L << 2 * k;
             ones.put(k, ones.at(k) & ~low | high);
             zeros.put(k, zeros.at(k) & ~high | low);
-        }
-
-        private long readOnes(Net net, int p, long live) {
-            long low = live & 1L << net.pinFault(p, 0);
-            long high = live & 1L << net.pinFault(p, 1);
-            return ones.at(net.reads.intAt(p)) & ~low | high;
-        }
-
-        private long readZeros(Net net, int p, long live) {
-            long low = live & 1L << net.pinFault(p, 0);
-            long high = live & 1L << net.pinFault(p, 1);
-            return zeros.at(net.reads.intAt(p)) & ~high | low;
         }
 
         int valueAt(int k, int circuit) {

@@ -167,7 +167,7 @@ public final class ModelTest {
   }
 
   public static void main(String[] args) {
-    int runs = args.length > 0 ? Integer.parseInt(args[0]) : 300;
+    int runs = args.length > 0 ? Integer.parseInt(args[0]) : 1000;
     int from = args.length > 1 ? Integer.parseInt(args[1]) : 0;
     int wrong = 0;
     int calls = 0;

@@ -712,6 +712,18 @@ public final class PromisesTest {
     Due.row(y, 1, 0, 0, 0);
     Due.is("tests(7)", y.tests(7), 4);
     Due.row(y, 0, 0, 0, 0);
+    // many patterns, of which few lead to other states
+    FaultLists wide = Due.withNet("4;#a;#e;#f:g", 20);
+    Due.is("tests(0)", wide.tests(0), 4);
+    Due.row(wide, 8, 0, 0, 0);
+    // another net, another answer
+    Due.text(wide, "4;#b0;#e0;#f0:g");
+    Due.is("net()", wide.net(), 20);
+    Due.is("tests(0)", wide.tests(0), -2);
+    Due.is("tests(2)", wide.tests(2), 4);
+    Due.row(wide, 4, 0, 0, 0);
+    Due.is("tests(13)", wide.tests(13), 1);
+    Due.row(wide, 0);
     // a counter of 8: its GATE i is 1 at 7 alone. From 2 on the sixth TICK is at 7, from 1 on the seventh would be
     FaultLists six = Due.withNet("1;#e0;#f1;#h0;!b;^bc;&bc;^dg;&bcd:i", 44);
     Due.is("tests(16)", six.tests(16), 6);
@@ -882,6 +894,13 @@ public final class PromisesTest {
     Due.text(z, "1");
     z.applies();
     suspects(z, "", 0, 3);
+    // b is turned over at each TICK: asked again it is the same
+    FaultLists w = Due.withNet("1;#c0;^ab:b", 12);
+    Due.text(w, "1");
+    w.applies();
+    suspects(w, "", 0, 6);
+    Due.is("parts()", w.parts(), 0);
+    Due.row(w, 6);
   }
 
   private static void drawn() {
