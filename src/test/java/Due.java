@@ -13,6 +13,17 @@ final class Due {
   /** What the checks that follow are about. */
   static void about(String what) { at = what; }
 
+  /** The checks that follow are of this sentence of a promise; the document must say it so. */
+  static void of(int promise, String sentence) { of("Promise " + promise, sentence); }
+
+  /** The checks that follow are of this sentence of the document's Terms. */
+  static void terms(String sentence) { of("Terms", sentence); }
+
+  static void of(String heading, String sentence) {
+    at = heading + ", \"" + sentence + "\"";
+    is("the document says so", Doc.says(heading, sentence), true);
+  }
+
   static void is(String call, long got, long due) {
     if (got != due) {
       wrong++;
@@ -64,6 +75,19 @@ final class Due {
     text(x, patterns);
     is("applies() of " + patterns, x.applies(), detected);
     row(x, faults);
+  }
+
+  /** Numbers that are none of 0 .. n - 1: next to them, far off, and such as lose their bits to be one. */
+  static int[] outside(int n) {
+    int[] some = {Integer.MIN_VALUE, Integer.MIN_VALUE + 1, -65536, -256, -64, -33, -32, -2, -1, n, n + 1, 32, 33, 64, 65,
+        128, 256, 257, 65536, 1 << 30, Integer.MAX_VALUE - 1, Integer.MAX_VALUE};
+    return java.util.Arrays.stream(some).filter(i -> i < 0 || i >= n).distinct().toArray();
+  }
+
+  static long bits(int... set) {
+    long b = 0;
+    for (int i : set) b |= 1L << i;
+    return b;
   }
 
   static void leave() {
