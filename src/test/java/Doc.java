@@ -9,6 +9,7 @@ import java.util.Map;
 /** The document's sections, and which of their sentences a test was of. */
 final class Doc {
   private static final Path FILE = Path.of("../shared/DOC.md");
+  private static final Map<String, String> PROMISES = new LinkedHashMap<>();
   private static final Map<String, String> SECTIONS = read();
   private static final Map<String, BitSet> NAMED = new LinkedHashMap<>();
 
@@ -20,6 +21,7 @@ final class Doc {
       for (String part : Files.readString(FILE).split("(?m)^## ")) {
         int end = part.indexOf('\n');
         String heading = part.substring(0, end).replaceAll("^(Promise \\d+):.*", "$1");
+        PROMISES.put(part.substring(0, end).replaceAll("^Promise \\d+: ", ""), heading);
         sections.put(heading, plain(part.substring(end)));
       }
     } catch (IOException e) {
@@ -33,6 +35,9 @@ final class Doc {
     String t = section.replaceAll("(?m)^```.*$", "").replaceAll("(?m)^\\d+\\. ", "");
     return t.replaceAll("\\s+", " ").trim().replaceAll("^`[^`]*`: ", "");
   }
+
+  /** The promise that a call is of, told by its heading. */
+  static String promiseOf(String call) { return PROMISES.getOrDefault(call.replaceAll("\\(.*", ""), "a call of no promise"); }
 
   /** Whether the section says so; it is marked as what a test was of. */
   static boolean says(String heading, String sentence) {

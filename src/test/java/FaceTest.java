@@ -21,7 +21,7 @@ public final class FaceTest {
 
   public static void main(String[] args) throws Exception {
     Class<?> face = FaultLists.class;
-    Due.about("the face");
+    Due.of("The public face", "public final class FaultLists");
     Due.is("public final", Modifier.isPublic(face.getModifiers()) && Modifier.isFinal(face.getModifiers()), true);
     TreeSet<String> due = new TreeSet<>(Arrays.asList(FACE));
     TreeSet<String> names = new TreeSet<>();
@@ -49,6 +49,7 @@ public final class FaceTest {
       checkStatic(f);
       Due.is(f + " is NONE or private", Modifier.isPrivate(f.getModifiers()) || f.toString().equals("public static final int FaultLists.NONE"), true);
     }
+    Due.of("The public face", "public static final int NONE = -1;");
     Due.is("NONE", face.getField("NONE").getInt(null), -1);
     Due.leave();
   }

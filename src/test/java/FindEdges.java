@@ -17,6 +17,8 @@ final class FindEdges {
     classesByRules();
     classOf();
     tests();
+    testsLong();
+    testsAnew();
     testsTooLong();
     hidden();
     needless();
@@ -65,6 +67,12 @@ final class FindEdges {
     apply(w, "1");
     Due.is("critical(2)", w.critical(2), Due.bits(0, 1, 2));
     Due.row(w, 3);
+    // a alone is critical, as b is 0; then either alone leaves c as it is
+    FaultLists either = Due.withNet("1;#a0;|ab:c", 12);
+    apply(either, "1");
+    Due.is("critical(2)", either.critical(2), Due.bits(0, 2));
+    apply(either, "1");
+    Due.is("critical(2)", either.critical(2), Due.bits(2));
   }
 
   private static void criticalNone() {
@@ -105,6 +113,10 @@ final class FindEdges {
     FaultLists two = Due.withNet("2;&ab;|ab;&ab;^ab:cdea", 28);
     Due.is("classes()", two.classes(), 28 - 3 * 2);
     Due.row(two, Due.bits(4, 12, 14));
+    // l at 0 and its PINS: 22, 38, 40; of each = its PIN
+    FaultLists high = Due.withNet("4;=a;=a;=a;=a;=a;=a;=a;&aa:l", 42);
+    Due.is("classes()", high.classes(), 42 - 7 * 2 - 2);
+    Due.row(high, Due.bits(22, 38, 40));
     // on and on: five in a row, all alike
     FaultLists chain = Due.withNet("1;=a;!b;!c;=d;!e:f", 22);
     Due.is("classes()", chain.classes(), 2);
@@ -212,12 +224,65 @@ final class FindEdges {
     Due.row(high, 15);
   }
 
+  private static void testsOf(String net, int fault, int... due) {
+    FaultLists x = new FaultLists();
+    Due.text(x, net);
+    Due.is("net() of " + net, x.net() > fault, true);
+    Due.is("tests(" + fault + ") of " + net, x.tests(fault), due.length);
+    Due.is("count(11)", x.count(11), due.length);
+    for (int i = 0; i < due.length && i < x.count(11); i++) Due.is("row(" + i + ")", x.row(i), due[i]);
+  }
+
+  private static void testsLong() {
+    Due.of(21, "The fewest PATTERNS of 0 and 1, 1 .. 6, at the last of which a FAULT SHOWS, from START on");
+    // a, not known at first, is seen three TICKS later
+    testsOf("4;#a;#e;#f:g", 0, 8, 0, 0, 0);
+    testsOf("4;#a;#e;#f:g", 1, 0, 0, 0, 0);
+    testsOf("4;#a;#e;#f:g", 8, 8, 0, 0, 0);
+    testsOf("2;#a;#c;&bd:e", 8, 2, 0, 1);
+    testsOf("2;#a;#c;&bd:e", 7, 0, 0, 1);
+    // g is 1 behind 1, 0, 1, 1 alone
+    testsOf("1;#a0;#b0;#c0;!c;&abe;&df:g", 12, 1, 0, 1, 1);
+    // a counter that a lets count: from 2 to 7, which is seen one TICK later
+    testsOf("1;#e0;#g1;#i0;^ab;&ab;^cf;&cf;^dh;&bcd:j", 18, 1, 1, 1, 1, 1, 0);
+    Due.of(21, "of as few the least row.");
+    // b at 0 and 1 is seen where a lets it: the least first, then the least behind it
+    testsOf("2;#b0;&ac:d", 6, 1, 2);
+    testsOf("2;#b0;^ac:d", 5, 0);
+    testsOf("2;#b0;^ac:d", 4, 1, 0);
+  }
+
+  /** The same question in another net: nothing is left of the one before. */
+  private static void testsAnew() {
+    Due.of(21, "from START on");
+    FaultLists x = Due.withNet("1;#a0:b", 6);
+    Due.is("tests(2): b at 0", x.tests(2), 2);
+    Due.row(x, 1, 0);
+    Due.is("keep(0)", x.keep(0), true);
+    Due.text(x, "1;#a1:b");
+    Due.is("net()", x.net(), 6);
+    Due.is("tests(2): b at 0", x.tests(2), 1);
+    Due.row(x, 0);
+    Due.text(x, "1;#b0:b");
+    Due.is("net()", x.net(), 6);
+    Due.is("tests(2): b at 0", x.tests(2), -2);
+    Due.is("hidden()", x.hidden(), 4);
+    // b at 1 at once, its PIN at 1 a TICK later
+    Due.row(x, Due.bits(0, 1, 2, 4), Due.bits(5), 2);
+    Due.is("again(0)", x.again(0), true);
+    Due.is("hidden()", x.hidden(), 0);
+    Due.row(x, 0, Due.bits(0, 1, 2, 4, 5), 2);
+  }
+
   private static void testsTooLong() {
     Due.of(21, "-2: 6 do not do;");
     FaultLists seven = Due.withNet(SEVEN, 44);
     Due.is("tests(17)", seven.tests(17), 1);
     Due.is("tests(16)", seven.tests(16), -2);
     Due.row(seven, 0);
+    FaultLists count = Due.withNet("1;#e1;#g0;#i0;^ab;&ab;^cf;&cf;^dh;&bcd:j", 52);
+    Due.is("tests(18): from 1 on", count.tests(18), -2);
+    Due.row(count);
     // seven TICKS do
     apply(seven, "0000000");
     Due.is("when(16)", seven.when(16), 6);
@@ -472,6 +537,7 @@ final class FindEdges {
     apply(all, "uuuu");
     Due.is("parts(): behind THE RUN", all.parts(), 0);
     Due.row(all, 60);
+    partsOfHeld();
     Due.of(26, "-2: there are fewer than two.");
     Due.text(x, "1uuu");
     Due.is("blames(): a at 1", x.blames(), 1);
@@ -480,6 +546,25 @@ final class FindEdges {
     Due.is("blames(): none", x.blames(), 0);
     Due.is("parts()", x.parts(), -2);
     Due.row(x, 0, 0);
+  }
+
+  /** What REGISTERS hold behind THE RUN, from START on, whatever was asked before. */
+  private static void partsOfHeld() {
+    FaultLists x = Due.withNet("1;#c0;^ab:b", 12);
+    apply(x, "1");
+    // at the next TICK b is 1 by the GOOD one, whatever the PATTERN
+    for (int i = 0; i < 3; i++) {
+      Due.text(x, "");
+      Due.is("blames()", x.blames(), 12);
+      Due.row(x, 4095, 1);
+      Due.text(x, "0");
+      Due.is("blames(): b was 0", x.blames(), 11);
+      Due.row(x, 4095 - 8, 1);
+      // b is 0 then by FAULTS 0, 2, 4, 6, 8, 11, by the others 1
+      Due.is("parts()", x.parts(), 0);
+      Due.row(x, 6);
+      Due.is("drawn(7, 3)", x.drawn(7, 3) > 0, true);
+    }
   }
 
   private static void partsForgets() {

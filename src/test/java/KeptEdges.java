@@ -316,6 +316,19 @@ final class KeptEdges {
     Due.is("again(0)", x.again(0), true);
     Due.is("again(0)", x.again(0), true);
     Due.is("count(6)", x.count(6), 1);
+    // the TICK and the OUTPUTS at which a FAULT was DETECTED
+    FaultLists y = Due.withNet("1;=a:ab", 6);
+    Due.applies(y, "uu1", 3, Due.bits(0, 2, 4));
+    Due.is("keep(1)", y.keep(1), true);
+    Due.is("begins()", y.begins(), 3);
+    Due.applies(y, "01", 6, 63);
+    Due.is("when(0)", y.when(0), 1);
+    Due.is("again(1)", y.again(1), true);
+    Due.is("when(0)", y.when(0), 2);
+    Due.row(y, 3);
+    Due.is("when(2)", y.when(2), 2);
+    Due.row(y, 2);
+    Due.is("when(1)", y.when(1), -2);
   }
 
   private static void againNone() {

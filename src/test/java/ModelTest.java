@@ -34,7 +34,7 @@ public final class ModelTest {
     story.append(what).append(" = ").append(got == THROWN ? "thrown" : String.valueOf(got)).append("; ");
     if (got != due) {
       wrong++;
-      System.out.println(story + "due is " + (due == THROWN ? "thrown" : String.valueOf(due)));
+      System.out.println(Doc.promiseOf(what) + ": " + story + "due is " + (due == THROWN ? "thrown" : String.valueOf(due)));
     }
     return got;
   }
@@ -95,13 +95,21 @@ public final class ModelTest {
     checkRow();
   }
 
-  private int someLine() { return chance.between(-1, (int) model.count(0)); }
+  /** A number of 0 .. n - 1, one next to them, or now and then one far off. */
+  private int some(int n) {
+    if (!chance.oneIn(12)) return chance.between(-1, n);
+    int[] far = Due.outside(n);
+    return far[chance.below(far.length)];
+  }
 
-  private int someFault() { return chance.between(-1, (int) model.count(5)); }
+  private int someLine() { return some((int) model.count(0)); }
+
+  private int someFault() { return some((int) model.count(5)); }
 
   private void ask() {
-    int a = chance.between(-1, 13);
-    int b = chance.between(-1, 8);
+    int a = some(20);
+    int b = some(9);
+    int r = some(8);
     int line = someLine();
     int fault = someFault();
     switch (chance.below(17)) {
@@ -114,7 +122,7 @@ public final class ModelTest {
       case 4: check("holds(" + line + ")", () -> real.holds(line), () -> model.holds(line)); break;
       case 5: check("detected()", real::detected, model::detected); break;
       case 6: check("when(" + fault + ")", () -> real.when(fault), () -> model.when(fault)); break;
-      case 7: check("sample(" + b + ", " + (a % 5) + ")", () -> real.sample(b, a % 5), () -> model.sample(b, a % 5)); break;
+      case 7: check("sample(" + b + ", " + r + ")", () -> real.sample(b, r), () -> model.sample(b, r)); break;
       case 8: check("critical(" + line + ")", () -> real.critical(line), () -> model.critical(line)); break;
       case 9: check("classes()", real::classes, model::classes); break;
       case 10: check("classOf(" + fault + ")", () -> real.classOf(fault), () -> model.classOf(fault)); break;
@@ -123,7 +131,7 @@ public final class ModelTest {
       case 13: check("shorter()", real::shorter, model::shorter); break;
       case 14: {
         int seed = chance.oneIn(3) ? chance.below(9) - 4 : (int) (chance.below(1 << 30) * 2654435761L);
-        int n = chance.between(0, 25);
+        int n = some(25);
         check("drawn(" + seed + ", " + n + ")", () -> real.drawn(seed, n), () -> model.drawn(seed, n));
         break;
       }
@@ -134,7 +142,7 @@ public final class ModelTest {
   }
 
   private void change() {
-    int i = chance.between(-1, 2);
+    int i = some(2);
     int signs = chance.below(1 << 30) * 4;
     switch (chance.below(7)) {
       case 0: check("begins()", real::begins, model::begins); break;

@@ -19,6 +19,7 @@ final class NetEdges {
     end();
     net();
     netBeginsAnew();
+    netSmaller();
     noRoom();
     noName();
     endsTooEarly();
@@ -301,6 +302,56 @@ final class NetEdges {
     Due.applies(x, "00", 3, 8 | 2 | 32);
   }
 
+  /** A smaller net behind the largest one: it answers as one that was told at first. */
+  private static void netSmaller() {
+    Due.of(4, "THE TEXT is THE NET");
+    String[] large = {"4;^ab;^bc;^cd;^da;^efg;^fgh;^ghe;^hef:ijkl", "1;#k0;#l1;#a;&abc;!e;=f;!g;=h;!i;=j;!k:lkji"};
+    String[] small = {"1:a", "1;#a:b", "2;|ab;#c1:dc", "3;&ab;^cd:e"};
+    for (String first : large) {
+      for (String then : small) {
+        FaultLists x = asked(first);
+        Due.text(x, then);
+        x.net();
+        FaultLists y = new FaultLists();
+        Due.text(y, then);
+        y.net();
+        int inputs = y.count(1);
+        Due.is("count(1)", x.count(1), inputs);
+        for (FaultLists z : new FaultLists[] {x, y}) {
+          Due.text(z, "011100101110".substring(0, 3 * inputs));
+          z.applies();
+          Due.text(z, "");
+          z.blames();
+          z.hidden();
+        }
+        same(x, y);
+        Due.is(then + " behind " + first, Picture.of(x).equals(Picture.of(y)), true);
+      }
+    }
+  }
+
+  private static FaultLists asked(String net) {
+    FaultLists x = new FaultLists();
+    Due.text(x, net);
+    Due.is("net() of " + net, x.net() > 40, true);
+    Due.text(x, "000011110101");
+    Due.is("applies()", x.applies() >= 0, true);
+    x.hidden();
+    x.classes();
+    x.parts();
+    return x;
+  }
+
+  private static void same(FaultLists x, FaultLists y) {
+    for (int f = 0; f < y.count(5); f++) {
+      Due.is("tests(" + f + ")", x.tests(f), y.tests(f));
+      Due.is("classOf(" + f + ")", x.classOf(f), y.classOf(f));
+    }
+    Due.is("classes()", x.classes(), y.classes());
+    Due.is("hidden()", x.hidden(), y.hidden());
+    for (int i = 0; i < 3; i++) Due.is("row(" + i + ")", x.row(i), y.row(i));
+  }
+
   private static void noRoom() {
     Due.of(4, "(a fourth REGISTER, a LINE more than 12: its first sign;");
     Due.withNet("1;#a;#a;#a:a", 14);
@@ -436,8 +487,14 @@ final class NetEdges {
     Due.of(5, "of 5 the LINE that the letter means (0 .. 11).");
     Refusals.chainAt("1:a", "a", 1, 1, 5, 0, 3, 3);
     Refusals.chainAt("1:", "l", 1, 1, 5, 11, 3, 2);
-    // m means none of 0 .. 11
-    Refusals.chainAt("1:", "m", 1, 1, 3, 2);
+    // m, n, r, z mean none of 0 .. 11
+    for (char c : "mnrz".toCharArray()) {
+      Refusals.chainAt("1:", "" + c, 1, 1, 3, 2);
+      Refusals.chainAt("1;!", "" + c, 1, 1, 2, 1, 3, 3);
+      Refusals.chainAt("1;#", "" + c, 1, 1, 2, 1, 3, 3);
+      Refusals.chainAt("1;&aa", "" + c, 1, 2, 3, 5);
+      Refusals.chainAt("1:a", "" + c, 1, 1, 3, 3);
+    }
   }
 
   private static void causeOfLines() {

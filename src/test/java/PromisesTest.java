@@ -1,5 +1,5 @@
 /**
- * Each promise by answers that were worked out by hand from the document.
+ * Each promise by ordinary answers that were worked out by hand from the document.
  *
  * <p>The net 2;&amp;ab:c is used most: FAULTS 0, 1 of a, 2, 3 of b, 4, 5 of c, 6, 7 of the PIN that
  * reads a, 8, 9 of the one that reads b. By 11 c is 1, and 0, 2, 4, 6, 8 show (341); by 01 c is 0, and
@@ -51,7 +51,7 @@ public final class PromisesTest {
   }
 
   private static void aNewObject() {
-    Due.about("promise 1");
+    Due.of(1, "THE NET 1:a; no TICK yet.");
     FaultLists x = new FaultLists();
     int[] counts = {1, 1, 0, 0, 1, 2, 0, 0, 0, 0, 0, 0, 0};
     for (int i = 0; i < counts.length; i++) Due.is("count(" + i + ")", x.count(i), counts[i]);
@@ -67,7 +67,7 @@ public final class PromisesTest {
   }
 
   private static void sign() {
-    Due.about("promise 2");
+    Due.of(2, "Four signs come behind THE TEXT, of v the highest byte first: how many it has.");
     FaultLists x = new FaultLists();
     // the highest byte first: 3 inputs, of which a and c are outputs
     Due.is("sign", x.sign('3' << 24 | ':' << 16 | 'a' << 8 | 'c'), 4);
@@ -86,7 +86,7 @@ public final class PromisesTest {
   }
 
   private static void end() {
-    Due.about("promise 3");
+    Due.of(3, "THE TEXT has its first n signs alone: true; false if it has not so many, or n is below 0.");
     FaultLists x = new FaultLists();
     Due.is("end(0)", x.end(0), true);
     Due.is("end(1)", x.end(1), false);
@@ -104,15 +104,18 @@ public final class PromisesTest {
   }
 
   private static void net() {
-    Due.about("promise 4");
+    Due.of(4, "THE TEXT is THE NET: how many FAULTS there are;");
     Due.is("count(0)", Due.withNet("4:abcd", 8).count(0), 4);
+    Due.terms("a REGISTER has one PIN, that reads any LINE, and a START 0, 1, or 2.");
     // a REGISTER may read itself, and a LINE told behind it
     Due.withNet("1;!a;=b;#e0;#e1;#a:f", 22);
     Due.withNet("3;&abc;|abc;^ab;nabc;rab:hgfe", 42);
+    Due.terms("PINS are numbered 0, 1, .. as they are told, through all LINES (at most 20).");
     // 12 LINES, 20 PINS
     FaultLists most = Due.withNet("4;&abc;&abc;&abc;&abc;&ab;&ab;&ab;&ab:lkji", 64);
     Due.is("count(3)", most.count(3), 20);
     Due.is("count(0)", most.count(0), 12);
+    Due.of(4, "THE RUN begins anew, DROPPING is off.");
     // a new net begins anew, and DROPPING is off, the suspects are none; a refused one changes nothing
     FaultLists x = Due.withNet(AND, 10);
     Due.is("drops(1)", x.drops(1), 0);
@@ -149,6 +152,7 @@ public final class PromisesTest {
   }
 
   private static void netRefused() {
+    Due.of(4, "-1 - p: the sign at p can't stand there");
     refused("", -1);
     refused("0:a", -1);
     refused("5:a", -1);
@@ -185,8 +189,10 @@ public final class PromisesTest {
     refused("4;!a:abcda", -10);
     refused("4;!a;!a;!a;!a;!a;!a;!a;!a;!a:a", -27);
     refused("1;#a;#a;#a;#a:a", -12);
+    Due.of(4, "-200: a REGISTER's PIN reads a LINE that there is not (asked behind all signs).");
     // -200 is asked behind all signs
     refused("1;#c:aa", -7);
+    Due.of(4, "a letter by which there would be 21 PINS;");
     // the 21st PIN: 18 and 2, then a third letter; a REGISTER's letter
     refused("4;&abc;&abc;&abc;&abc;&abc;&abc;&abc:a", -36);
     refused("4;&abc;&abc;&abc;&abc;&abc;&abc;&ab;#a:a", -38);
@@ -217,7 +223,7 @@ public final class PromisesTest {
   }
 
   private static void cause() {
-    Due.about("promise 5");
+    Due.of(5, "Why the latest net() was refused, as a chain:");
     chain("", 1, 0, 3, 0);
     chain("x", 1, 0, 3, 0);
     chain("3", 1, 3, 3, 1);
@@ -259,10 +265,12 @@ public final class PromisesTest {
     chain("4;!a;!a;!a;!a;!a;!a;!a;!a;a:a", 1, 12, 3, 26);
     chain("4;!a;!a;!a;!a;!a;!a;!a;!a;", 1, 12, 3, 26);
     chain("1;#a;#a;#a;#a:a", 1, 4, 2, 4, 4, 11);
+    Due.of(5, "or there is no room for it;");
     // 20 PINS are there, the 21st has no room: a third letter, a second one, a REGISTER's
     chain("4;&abc;&abc;&abc;&abc;&abc;&abc;&aba:a", 1, 10, 2, 10, 4, 35);
     chain("4;&abc;&abc;&abc;&abc;&abc;&abc;=a;&aa:a", 1, 11, 2, 11, 4, 37);
     chain("4;&abc;&abc;&abc;&abc;&abc;&abc;&ab;#a:a", 1, 11, 2, 11, 4, 37);
+    Due.of(5, "(of one place the first of 3, 5, 4)");
     // of one place 3 comes ahead of 5, and 5 of 4
     chain("4;&abc;&abc;&abc;&abc;&abc;&abc;&abk:a", 1, 10, 2, 10, 5, 10, 3, 35);
     chain("4;&abc;&abc;&abc;&abc;&abc;&abc;&ab;!l:a", 1, 11, 2, 11, 5, 11, 3, 37);
@@ -272,7 +280,7 @@ public final class PromisesTest {
   }
 
   private static void line() {
-    Due.about("promise 6");
+    Due.of(6, "Of LINE k, what 0: its sort");
     FaultLists x = Due.withNet("1;!a;=a;&ab;|cba;^ab;nabc;rab;#a0;#i1;#k:ki", 56);
     int[] sorts = {0, 1, 2, 3, 4, 5, 6, 7, 8, 8, 8};
     int[] widths = {0, 1, 1, 2, 3, 2, 3, 2, 1, 1, 1};
@@ -293,7 +301,7 @@ public final class PromisesTest {
   }
 
   private static void pin() {
-    Due.about("promise 7");
+    Due.of(7, "The LINE that PIN p reads. NoSuchElementException: none such.");
     FaultLists x = Due.withNet("2;&ba;#e;|cab;!d:f", 26);
     int[] reads = {1, 0, 4, 2, 0, 1, 3};
     for (int p = 0; p < reads.length; p++) Due.is("pin(" + p + ")", x.pin(p), reads[p]);
@@ -307,7 +315,7 @@ public final class PromisesTest {
   }
 
   private static void applies() {
-    Due.about("promise 8");
+    Due.of(8, "the TICKS are done: how many FAULTS are DETECTED that were not; the ROW: they.");
     FaultLists x = Due.withNet(AND, 10);
     Due.applies(x, "", 0, 0);
     Due.is("count(6)", x.count(6), 0);
@@ -326,6 +334,7 @@ public final class PromisesTest {
     Due.is("applies(): 25 TICKS", x.applies(), -200);
     Due.is("count(12)", x.count(12), 0);
     Due.is("count(6)", x.count(6), 3);
+    Due.of(8, "-200: THE RUN would have more than 24 TICKS (nothing is done).");
     // a sign that can't stand comes ahead of too many TICKS
     Due.text(x, twentyOne + "00x0");
     Due.is("applies()", x.applies(), -45);
@@ -338,6 +347,7 @@ public final class PromisesTest {
 
   /** One GATE of each sort by all values of its PINS: the answer is the list of its own FAULTS that show. */
   private static void appliesGates() {
+    Due.terms("GATES: ! (not) and = (the same) with 1 PIN; &, |, ^, n (not &), r (not |) with 2 or 3:");
     String[] values = {"00", "01", "0u", "10", "11", "1u", "u0", "u1", "uu"};
     String[] sorts = {"&ab", "|ab", "^ab", "nab", "rab", "&aab", "|abb", "^abb", "!b", "=b"};
     String[] due = {"000012022", "012111212", "012102222", "111102122", "102000202",
@@ -362,7 +372,7 @@ public final class PromisesTest {
   }
 
   private static void would() {
-    Due.about("promise 9");
+    Due.of(9, "What applies() would tell (the ROW, too); nothing is done.");
     FaultLists x = Due.withNet(AND, 10);
     Due.is("drops(1)", x.drops(1), 0);
     Due.text(x, "11");
@@ -398,7 +408,7 @@ public final class PromisesTest {
   }
 
   private static void begins() {
-    Due.about("promise 10");
+    Due.of(10, "THE RUN begins anew (nothing is DETECTED, nothing DROPPED; DROPPING stays on or off): how many TICKS it had.");
     FaultLists x = Due.withNet("1;#a0:b", 6);
     Due.is("begins()", x.begins(), 0);
     Due.is("drops(1)", x.drops(1), 0);
@@ -421,12 +431,13 @@ public final class PromisesTest {
   }
 
   private static void drops() {
-    Due.about("promise 11");
+    Due.of(11, "DROPPING is on (is 1) or off (0): how many are DROPPED so far. -2: it is so; NONE: another is.");
     FaultLists x = Due.withNet(AND, 10);
     Due.is("drops(0)", x.drops(0), -2);
     Due.is("drops(2)", x.drops(2), -1);
     Due.is("drops(-1)", x.drops(-1), -1);
     Due.applies(x, "11", 5, 341);
+    Due.terms("a FAULT that SHOWS at a TICK while that is on is DROPPED");
     // those that are detected are not dropped by it, but when they show again
     Due.is("drops(1)", x.drops(1), 0);
     Due.is("drops(1)", x.drops(1), -2);
@@ -440,6 +451,7 @@ public final class PromisesTest {
     Due.applies(x, "01", 2, 130);
     Due.is("detected()", x.detected(), 8);
     Due.row(x, 503, 373);
+    Due.terms("from the end of that TICK on it is as the GOOD one.");
     // what was dropped stays as the good one
     Due.is("faulty(5, 2)", x.faulty(5, 2), 0);
     Due.is("faulty(1, 2)", x.faulty(1, 2), 1);
@@ -458,7 +470,7 @@ public final class PromisesTest {
   }
 
   private static void value() {
-    Due.about("promise 12");
+    Due.of(12, "VALUE of a LINE by the GOOD one at the latest TICK; the ROW: its LIST, its DOUBTS. -2: there was no TICK; NONE: none such.");
     FaultLists x = Due.withNet(AND, 10);
     Due.is("value(2)", x.value(2), -2);
     Due.is("value(3)", x.value(3), -1);
@@ -473,6 +485,7 @@ public final class PromisesTest {
     Due.row(x, 4, 0);
     Due.applies(x, "1u", 0, 0);
     Due.is("value(2)", x.value(2), 2);
+    Due.terms("DOUBTS: those by which one of the two is 2, the other not.");
     // all but a at 1 and its PIN at 1 make it known
     Due.row(x, 0, 1023 - 2 - 128);
     Due.is("value(1)", x.value(1), 2);
@@ -482,6 +495,7 @@ public final class PromisesTest {
     Due.row(x, 32, 2 | 128);
     Due.is("value(3)", x.value(3), -1);
     Due.row(x, 32, 130);
+    Due.terms("LIST of a LINE: FAULTS, not DROPPED ahead of the latest TICK");
     // the ones dropped at the latest TICK are still in its LISTS, the ones ahead of it are not
     Due.is("drops(1)", x.drops(1), 0);
     Due.applies(x, "11", 0, 0);
@@ -493,7 +507,7 @@ public final class PromisesTest {
   }
 
   private static void faulty() {
-    Due.about("promise 13");
+    Due.of(13, "VALUE of a LINE by a FAULT at the latest TICK");
     FaultLists x = Due.withNet(AND, 10);
     Due.is("faulty(0, 0)", x.faulty(0, 0), -2);
     Due.is("faulty(10, 0)", x.faulty(10, 0), -1);
@@ -516,7 +530,7 @@ public final class PromisesTest {
   }
 
   private static void holds() {
-    Due.about("promise 14");
+    Due.of(14, "What a REGISTER (a LINE) holds by the GOOD one; the ROW: FAULTS, not DROPPED, by which it holds another VALUE (2, too). NONE: no REGISTER.");
     FaultLists x = Due.withNet("1;#a;#b1:c", 10);
     Due.is("holds(0)", x.holds(0), -1);
     Due.is("holds(3)", x.holds(3), -1);
@@ -537,7 +551,7 @@ public final class PromisesTest {
   }
 
   private static void detected() {
-    Due.about("promise 15");
+    Due.of(15, "FAULTS that are DETECTED: how many; the ROW: they, those that are DROPPED.");
     FaultLists x = Due.withNet(AND, 10);
     Due.is("detected()", x.detected(), 0);
     Due.row(x, 0, 0);
@@ -546,6 +560,7 @@ public final class PromisesTest {
     Due.applies(x, "01", 3, 162);
     Due.is("detected()", x.detected(), 8);
     Due.row(x, 503, 162);
+    Due.terms("of FAULTS, up to 64, as a long");
     // 64 FAULTS make a long below 0
     // i, j, k are a AND b, l is a XOR b: FAULTS 16 .. 23 of them, 48 .. 63 of their PINS
     FaultLists y = Due.withNet("4;&abc;&abc;&abc;&abc;&ab;&ab;&ab;^ab:lkji", 64);
@@ -557,7 +572,7 @@ public final class PromisesTest {
   }
 
   private static void when() {
-    Due.about("promise 16");
+    Due.of(16, "The TICK at which a FAULT was DETECTED; the ROW: OUTPUTS at which it SHOWED then (LINES, bits). -2: it is not; NONE: none such.");
     FaultLists x = Due.withNet("1;=a;!b:bac", 10);
     Due.is("when(0)", x.when(0), -2);
     Due.is("when(10)", x.when(10), -1);
@@ -584,7 +599,7 @@ public final class PromisesTest {
   }
 
   private static void sample() {
-    Due.about("promise 17");
+    Due.of(17, "DETECTED ones by all FAULTS whose number is r modulo k (k 1 .. 8, r 0 .. k - 1), as a fraction in least terms: 0; the ROW: above, below.");
     FaultLists x = Due.withNet(AND, 10);
     Due.is("sample(1, 0)", x.sample(1, 0), 0);
     Due.row(x, 0, 1);
@@ -608,7 +623,7 @@ public final class PromisesTest {
   }
 
   private static void critical() {
-    Due.about("promise 18");
+    Due.of(18, "LINES that are critical for an OUTPUT (a LINE) now:");
     FaultLists x = Due.withNet(AND, 10);
     Due.is("critical(2)", x.critical(2), -2);
     Due.is("critical(1)", x.critical(1), -1);
@@ -628,6 +643,7 @@ public final class PromisesTest {
     y.applies();
     Due.is("critical(2)", y.critical(2), 6);
     Due.is("critical(1)", y.critical(1), 3);
+    Due.of(18, "by the GOOD one's VALUES of INPUTS, REGISTERS of the latest TICK");
     // a REGISTER's VALUE of the TICK, not what it holds behind it
     FaultLists z = Due.withNet("1;#a0;&ab:c", 12);
     Due.text(z, "1");
@@ -642,7 +658,7 @@ public final class PromisesTest {
   }
 
   private static void classes() {
-    Due.about("promise 19");
+    Due.of(19, "FAULTS that are alike, by rules:");
     FaultLists x = Due.withNet(AND, 10);
     Due.is("classes()", x.classes(), 4);
     Due.row(x, 341);
@@ -661,6 +677,7 @@ public final class PromisesTest {
     FaultLists same = Due.withNet("1;=a:b", 6);
     Due.is("classes()", same.classes(), 2);
     Due.row(same, 1 | 4 | 16);
+    Due.of(19, "a LINE that just one PIN reads, and that is no OUTPUT, at v, and that PIN at v;");
     // an OUTPUT, and a LINE that two PINS read, are not as their PINS; a REGISTER parts
     FaultLists out = Due.withNet("1;!a:ab", 6);
     Due.is("classes()", out.classes(), 4);
@@ -674,7 +691,7 @@ public final class PromisesTest {
   }
 
   private static void classOf() {
-    Due.about("promise 20");
+    Due.of(20, "FAULTS of the class of a FAULT: how many; the ROW: they. NONE: none such.");
     FaultLists x = Due.withNet(AND, 10);
     Due.is("classOf(10)", x.classOf(10), -1);
     Due.is("classOf(-1)", x.classOf(-1), -1);
@@ -692,7 +709,7 @@ public final class PromisesTest {
   }
 
   private static void tests() {
-    Due.about("promise 21");
+    Due.of(21, "The fewest PATTERNS of 0 and 1, 1 .. 6, at the last of which a FAULT SHOWS, from START on: how many;");
     FaultLists x = Due.withNet(AND, 10);
     Due.is("tests(10)", x.tests(10), -1);
     Due.is("tests(-1)", x.tests(-1), -1);
@@ -712,6 +729,7 @@ public final class PromisesTest {
     Due.row(y, 1, 0, 0, 0);
     Due.is("tests(7)", y.tests(7), 4);
     Due.row(y, 0, 0, 0, 0);
+    Due.of(21, "of as few the least row.");
     // many patterns, of which few lead to other states
     FaultLists wide = Due.withNet("4;#a;#e;#f:g", 20);
     Due.is("tests(0)", wide.tests(0), 4);
@@ -724,6 +742,7 @@ public final class PromisesTest {
     Due.row(wide, 4, 0, 0, 0);
     Due.is("tests(13)", wide.tests(13), 1);
     Due.row(wide, 0);
+    Due.of(21, "-2: 6 do not do;");
     // a counter of 8: its GATE i is 1 at 7 alone. From 2 on the sixth TICK is at 7, from 1 on the seventh would be
     FaultLists six = Due.withNet("1;#e0;#f1;#h0;!b;^bc;&bc;^dg;&bcd:i", 44);
     Due.is("tests(16)", six.tests(16), 6);
@@ -736,7 +755,7 @@ public final class PromisesTest {
   }
 
   private static void hidden() {
-    Due.about("promise 22");
+    Due.of(22, "FAULTS for which tests() is -2: how many; the ROW: they, those for which tests() is greatest (0 without any), that number (0 without any).");
     FaultLists x = Due.withNet(AND, 10);
     Due.is("hidden()", x.hidden(), 0);
     Due.row(x, 0, 1023, 1);
@@ -754,7 +773,7 @@ public final class PromisesTest {
   }
 
   private static void needless() {
-    Due.about("promise 23");
+    Due.of(23, "TICKS of THE RUN without each of which, alone, all that are DETECTED would be so");
     FaultLists x = Due.withNet(AND, 10);
     Due.is("needless()", x.needless(), 0);
     Due.row(x, 0);
@@ -772,6 +791,7 @@ public final class PromisesTest {
     y.applies();
     Due.is("needless()", y.needless(), 3);
     Due.row(y, 7);
+    Due.of(23, "(as if DROPPING were off; TICKS behind it come one sooner)");
     // TICKS behind it come one sooner, and dropping is as off: without TICK 1 the 1 of TICK 0 is still seen
     FaultLists z = Due.withNet("1;#a0:b", 6);
     Due.is("drops(1)", z.drops(1), 0);
@@ -782,7 +802,7 @@ public final class PromisesTest {
   }
 
   private static void shorter() {
-    Due.about("promise 24");
+    Due.of(24, "TICKS of THE RUN go, from the latest to the first, each if without it (and those that went) all that are DETECTED would be so");
     FaultLists x = Due.withNet(AND, 10);
     Due.is("shorter()", x.shorter(), 0);
     Due.row(x, 0);
@@ -806,7 +826,7 @@ public final class PromisesTest {
   }
 
   private static void blames() {
-    Due.about("promise 25");
+    Due.of(25, "FAULTS by which nothing is otherwise");
     FaultLists x = Due.withNet(AND, 10);
     Due.text(x, "");
     Due.is("blames()", x.blames(), 10);
@@ -833,6 +853,7 @@ public final class PromisesTest {
     Due.is("count(9)", x.count(9), 3);
     Due.is("count(12)", x.count(12), 0);
     Due.row(x, 162, 0);
+    Due.of(25, "THE TEXT tells what was seen at the OUTPUTS, in their order, TICK by TICK of THE RUN");
     // OUTPUTS in their order: b ahead of a
     FaultLists y = Due.withNet("2:ba", 4);
     Due.applies(y, "10", 2, 1 | 8);
@@ -844,6 +865,7 @@ public final class PromisesTest {
     Due.text(y, "11");
     Due.is("blames()", y.blames(), 1);
     Due.row(y, 8, 0);
+    Due.of(25, "(no 0 was seen where it is 1, no 1 where it is 0;");
     // what is not known is not otherwise
     FaultLists z = Due.withNet("1;#a:b", 6);
     Due.text(z, "1");
@@ -861,7 +883,7 @@ public final class PromisesTest {
   }
 
   private static void parts() {
-    Due.about("promise 26");
+    Due.of(26, "The PATTERN of 0 and 1 (as a number) by which THE SUSPECTS");
     FaultLists x = Due.withNet(AND, 10);
     Due.is("parts()", x.parts(), -2);
     suspects(x, "", 3, 5);
@@ -878,6 +900,7 @@ public final class PromisesTest {
     Due.is("blames()", x.blames(), 0);
     Due.is("parts()", x.parts(), -2);
     Due.row(x, 0, 0);
+    Due.of(26, "-2: there are fewer than two.");
     // behind 24 TICKS, too; one suspect is too few
     FaultLists y = Due.withNet("2:ab", 4);
     Due.text(y, "111111111111111111111111111111111111111111111111");
@@ -889,6 +912,7 @@ public final class PromisesTest {
     suspects(y, "11", 0, 1);
     Due.is("begins()", y.begins(), 24);
     Due.is("parts()", y.parts(), -2);
+    Due.of(26, "part best behind THE RUN, one TICK more");
     // what REGISTERS hold behind the run counts: b is 1 by the good one
     FaultLists z = Due.withNet("1;#a0:b", 6);
     Due.text(z, "1");
@@ -904,7 +928,7 @@ public final class PromisesTest {
   }
 
   private static void drawn() {
-    Due.about("promise 27");
+    Due.of(27, "n (1 .. 24) PATTERNS of a seed, from START on:");
     // of seed 1: 16838, 5758, 10113, 17515, 31051, 5627, 23010, 7419, 16212, 4086
     FaultLists x = Due.withNet(AND, 10);
     Due.is("drawn(1, 0)", x.drawn(1, 0), -1);
@@ -921,6 +945,7 @@ public final class PromisesTest {
     }
     Due.is("count(6)", x.count(6), 1);
     Due.is("drawn(1, 24)", x.drawn(1, 24), 10);
+    Due.of(27, "(R without sign, by 65536) % n.");
     // without sign: -1 draws 48697
     FaultLists y = new FaultLists();
     Due.is("drawn(-1, 1)", y.drawn(-1, 1), 1);
@@ -931,7 +956,7 @@ public final class PromisesTest {
   }
 
   private static void keepAndAgain() {
-    Due.about("promises 28 and 29");
+    Due.of(28, "THE NET, THE RUN, DROPPING, THE SUSPECTS are kept under a number 0 .. 1: true. Refused: others.");
     FaultLists x = Due.withNet(AND, 10);
     Due.is("keep(2)", x.keep(2), false);
     Due.is("keep(-1)", x.keep(-1), false);
@@ -965,6 +990,7 @@ public final class PromisesTest {
     Due.is("applies()", x.applies(), 3);
     Due.row(x, 162);
     Due.is("begins()", x.begins(), 2);
+    Due.of(29, "They are as they were kept under a number. Refused: nothing kept.");
     // what was kept stays as it was
     Due.is("again(1)", x.again(1), true);
     Due.is("count(6)", x.count(6), 1);
@@ -983,7 +1009,7 @@ public final class PromisesTest {
   }
 
   private static void count() {
-    Due.about("promise 30");
+    Due.of(30, "What 0: LINES, 1: INPUTS, 2: REGISTERS, 3: PINS, 4: OUTPUTS, 5: FAULTS, 6: TICKS of THE RUN,");
     FaultLists x = Due.withNet("2;&ab;#c;#d1:dc", 2 * (5 + 4));
     Due.is("drops(1)", x.drops(1), 0);
     Due.text(x, "11");
@@ -1000,11 +1026,12 @@ public final class PromisesTest {
   }
 
   private static void row() {
-    Due.about("promise 31");
+    Due.of(31, "Number i of the ROW. NoSuchElementException: none such.");
     FaultLists x = new FaultLists();
     Due.row(x);
     Due.is("sample(1, 0)", x.sample(1, 0), 0);
     Due.row(x, 0, 1);
+    Due.terms("the ROW stays with each answer below 0.");
     // it stays with each answer below 0, and with calls that tell none
     Due.is("sample(9, 0)", x.sample(9, 0), -1);
     Due.is("when(0)", x.when(0), -2);

@@ -6,7 +6,7 @@ public final class RoomTest {
   private static final long BYTES_OF_A_RUN = 10_000;
 
   public static void main(String[] args) {
-    Due.about("the room");
+    Due.of("What it is", "An object is used for at most 512 calls after it has been made");
     com.sun.management.ThreadMXBean threads =
         (com.sun.management.ThreadMXBean) ManagementFactory.getThreadMXBean();
     long id = Thread.currentThread().getId();

@@ -510,6 +510,10 @@ final class RunEdges {
       Due.is("sample(" + d[0] + ", " + d[1] + ")", x.sample(d[0], d[1]), 0);
       Due.row(x, d[2], d[3]);
     }
+    FaultLists half = Due.withNet("2:ab", 4);
+    apply(half, "01");
+    Due.is("sample(1, 0): 2 of 4", half.sample(1, 0), 0);
+    Due.row(half, 1, 2);
     apply(x, "1000010000100001");
     for (int k = 1; k <= 8; k++) {
       Due.is("sample(" + k + ", " + (k - 1) + ")", x.sample(k, k - 1), 0);
